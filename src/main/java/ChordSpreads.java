@@ -844,18 +844,23 @@ public final class ChordSpreads {
                 for (int x = 0; x < many; x++) {
                     int step = way(p, from, hands[x], to, handsTo[y]);
                     if (step < NEVER) {
-                        lower(y * others, others, x, many, withMoves ? step : 0);
+                        lower(y * others, (y + 1) * others, x, many, withMoves ? step : 0);
                     }
                 }
             }
         }
 
-        private void lower(int target, int others, int x, int many, int step) {
-            for (int o = 0; o < others; o++) {
-                int sum = row[o * many + x] + step;
-                if (sum < spare[target + o]) {
-                    spare[target + o] = sum;
+        /** Places of spare from first on, ahead of end, by every many-th place of row from x on. */
+        private void lower(int first, int end, int x, int many, int step) {
+            int[] source = row;
+            int[] target = spare;
+            int at = x;
+            for (int place = first; place < end; place++) {
+                int sum = source[at] + step;
+                if (sum < target[place]) {
+                    target[place] = sum;
                 }
+                at += many;
             }
         }
 

@@ -140,6 +140,13 @@ public final class PromiseTest {
         due("band() anew", x.band(), 3);
         counts(x, 3, 7, 0, 5, 9, 0, 0, 0);
         due("back(0) of an image that is gone", x.back(0), STATE);
+        x.calls(1);
+        due("score(0) of bells", x.score(0), 0);
+        type(x, "n 1;");
+        due("band() of a chord alone", x.band(), 1);
+        counts(x, 0, 0, 1, 5, 9, 0, 0, 0);
+        due("undo() behind band()", x.undo(), STATE);
+        due("score(0) behind band()", x.score(0), NONE);
         due("band() of no text", x.band(), 0);
         counts(x, 0, 0, 0, 5, 9, 0, 0, 0);
     }
@@ -274,7 +281,10 @@ public final class PromiseTest {
         due("chord(1, 1)", x.chord(1, 1), 3);
         for (int i = 0; i < 12; i++) x.tells(i, 20);
         due("count(7) of twelve", x.count(7), 10);
-        for (int i = 9; i >= 0; i--) due("undo()", x.undo(), i);
+        for (int i = 9; i >= 0; i--) {
+            due("undo()", x.undo(), i);
+            due("count(3)", x.count(3), i + 1);
+        }
         due("undo() of the lost ones", x.undo(), STATE);
         due("count(3)", x.count(3), 1);
     }
@@ -291,6 +301,9 @@ public final class PromiseTest {
             due("could(" + p + ", 3, 1)", x.could(p, 3, 1), 1);
             due("could(" + p + ", 3, 2)", x.could(p, 3, 2), BAD);
         }
+        x.puts(2, 12, 13, 14);
+        due("could(1, 2, 5)", x.could(1, 2, 5), 1);
+        due("could(1, 2, 7) of three near notes", x.could(1, 2, 7), 0);
         due("could(0, 1, 8)", x.could(0, 1, 8), BAD);
         due("could(0, 1, -1)", x.could(0, 1, -1), BAD);
         due("could(3, 1, 0)", x.could(3, 1, 0), BAD);
@@ -409,6 +422,11 @@ public final class PromiseTest {
         ChordSpreads y = told("r 0 15 2;r 0 15 3;r 16 60 9;n 10 20;q 5 4;");
         due("score(2)", y.score(2), 1);
         due("couldRest(0) of an uneven rest", y.couldRest(0), 0);
+        // without the 4 the others are 2 and 5 loud: just what BALANCE bears
+        ChordSpreads z = told("r 0 15 4;r 0 15 2;r 16 60 5;n 10 20;n 10 11 20;q 20 3;");
+        due("hand(0, 0)", z.hand(0, 0), 1);
+        due("hand(0, 1)", z.hand(0, 1), 1);
+        due("couldRest(0) by BALANCE itself", z.couldRest(0), 3);
     }
 
     private static void moves() {
@@ -569,6 +587,11 @@ public final class PromiseTest {
         due("chord(0, 0)", x.chord(0, 0), 1);
         x.takes(1);
         due("score(0) behind it", x.score(0), 0);
+        x.keep(1);
+        x.calls(1);
+        due("score(0) with all OUT", x.score(0), NONE);
+        due("back(1) with one IN", x.back(1), 1);
+        due("score(0) with one IN", x.score(0), 0);
     }
 
     private static void allCounts() {

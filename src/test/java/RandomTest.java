@@ -164,6 +164,14 @@ public final class RandomTest {
         for (int what = 0; what < 8; what++) due("count(" + what + ")", real.count(what), plain.count(what));
     }
 
+    private static void undoAll() {
+        for (int i = 0; i < 11; i++) {
+            due("undo()", real.undo(), plain.undo());
+            for (int what = 1; what < 5; what++) due("count(" + what + ")", real.count(what), plain.count(what));
+            due("chord(0, 0)", real.chord(0, 0), plain.chord(0, 0));
+        }
+    }
+
     private static void oneRun(long seed) {
         Random r = new Random(seed);
         real = new ChordSpreads();
@@ -182,12 +190,14 @@ public final class RandomTest {
             int changes = any(r, 1, r.nextInt(6) == 0 ? 14 : 2);
             for (int j = 0; j < changes; j++) change(r);
             ask(r);
+            if (r.nextInt(12) == 0 && run.size() < 250) tell(r, r.nextInt(4) == 0 ? spoilt(r, text(r, false)) : text(r, false));
+            if (r.nextInt(12) == 0) undoAll();
         }
         wholeScore();
     }
 
     public static void main(String[] args) {
-        int runs = args.length > 0 ? Integer.parseInt(args[0]) : 300;
+        int runs = args.length > 0 ? Integer.parseInt(args[0]) : 1500;
         long first = args.length > 1 ? Long.parseLong(args[1]) : 1;
         for (long seed = first; seed < first + runs && wrong < SHOWN; seed++) oneRun(seed);
         System.out.println(wrong == 0 ? "all answers are as due" : wrong + " answers are not as due");
