@@ -370,7 +370,8 @@ public final class ChordSpreads {
 
     private boolean isThereAScore() {
         if (!solved) {
-            search.solve();
+            search.findCosts();
+            search.chooseFirst();
             solved = true;
         }
         return search.least < NEVER;
@@ -506,7 +507,7 @@ public final class ChordSpreads {
         int lowestOf(int c, int hand) {
             for (int i = 0; i < NOTES; i++) {
                 if ((hand >> i & 1) == 1) {
-                    return noteAt(c, i);
+                    return notes[c * NOTES + i];
                 }
             }
             return NO_NOTE;
@@ -515,7 +516,7 @@ public final class ChordSpreads {
         int highestOf(int c, int hand) {
             for (int i = NOTES - 1; i >= 0; i--) {
                 if ((hand >> i & 1) == 1) {
-                    return noteAt(c, i);
+                    return notes[c * NOTES + i];
                 }
             }
             return NO_NOTE;
@@ -663,26 +664,30 @@ public final class ChordSpreads {
                 at++;
             }
             start = at;
-            if (at >= length) {
+            while (at < length && isFigure(text[at])) {
+                at++;
+            }
+            if (at > start) {
+                token = weigh(at - start);
+            } else if (at >= length) {
                 token = END;
-            } else if (isFigure(text[at])) {
-                nextNumber();
             } else {
                 token = text[at];
                 at++;
             }
         }
 
-        private void nextNumber() {
-            value = 0;
-            while (at < length && isFigure(text[at])) {
-                // two figures are all that a number may have; more would only overflow
-                value = at - start < 2 ? value * 10 + text[at] - '0' : value;
-                at++;
+        /** Two figures are all that a number may have, the first of them no 0: so no value overflows. */
+        private int weigh(int figures) {
+            value = text[start] - '0';
+            if (figures == 1) {
+                return NUMBER;
             }
-            int figures = at - start;
-            boolean zeroAhead = figures > 1 && text[start] == '0';
-            token = figures > 2 || zeroAhead ? WRONG : NUMBER;
+            if (figures > 2 || value == 0) {
+                return WRONG;
+            }
+            value = value * 10 + text[start + 1] - '0';
+            return NUMBER;
         }
 
         private static boolean isFigure(int letter) {
@@ -898,8 +903,8 @@ public final class ChordSpreads {
 
         // ---- the score
 
-        void solve() {
-            findCosts();
+        /** Behind findCosts: the document's first of the scores that cost least. */
+        void chooseFirst() {
             least = 0;
             for (int c = 0; c < piece.size; c++) {
                 int place = firstBest(c);
@@ -914,7 +919,7 @@ public final class ChordSpreads {
         }
 
         /** Backwards: what it costs from each spread on, so that the first best can be chosen forwards. */
-        private void findCosts() {
+        void findCosts() {
             for (int c = piece.size - 1; c >= 0; c--) {
                 offer(c, piece.in);
                 int many = findGaps(c);

@@ -1,76 +1,61 @@
+import java.util.ArrayList;
+import java.util.List;
 import java.util.Random;
 
 /** No call ever throws, whatever its numbers and whatever went ahead; a refused call changes nothing. */
 public final class AnyArgumentsTest {
     private static final int[] EDGES = {Integer.MIN_VALUE, Integer.MIN_VALUE + 1, -1000000, -10, -9, -3, -2, -1, 0, 1, 2, 3,
         4, 5, 6, 7, 8, 9, 10, 20, 21, 30, 31, 59, 60, 61, 255, 256, 1000000, Integer.MAX_VALUE - 1, Integer.MAX_VALUE};
+    private static final String[] CALLS = {"type 1", "clear 0", "band 0", "player 2", "span 1", "chord 2", "puts 4", "takes 1", "calls 1",
+        "tells 2", "undo 0", "could 3", "spreads 1", "score 1", "hand 2", "loud 2", "couldRest 1", "move 2", "reach 0", "fewest 0",
+        "bear 0", "hears 2", "forget 0", "ill 0", "keep 1", "back 1", "count 1"};
     private static final String TEXT = "b 0 60 9 12;b 0 60 8 12;r 0 60 7;g 0 60 6;n 1 2 3;n 2 4 5;n 1 2 4;q 3 30;";
+    private static final int SEEDS = 400, RANDOM_CALLS = 110;
 
-    private static int any(Random r) {
-        return EDGES[r.nextInt(EDGES.length)];
+    private static int any(Random r, int from, int to) {
+        return EDGES[from + r.nextInt(to - from)];
     }
 
-    private static int call(ChordSpreads x, Random r) {
-        switch (r.nextInt(27)) {
-            case 0: return x.type(any(r));
-            case 1: return x.clear();
-            case 2: return r.nextInt(20) == 0 ? x.band() : x.reach();
-            case 3: return x.player(any(r), any(r));
-            case 4: return x.span(any(r));
-            case 5: return x.chord(any(r), any(r));
-            case 6: return x.puts(any(r), any(r), any(r), any(r));
-            case 7: return x.takes(any(r));
-            case 8: return x.calls(any(r));
-            case 9: return x.tells(any(r), any(r));
-            case 10: return x.undo();
-            case 11: return x.could(any(r), any(r), any(r));
-            case 12: return x.spreads(any(r));
-            case 13: return x.score(any(r));
-            case 14: return x.hand(any(r), any(r));
-            case 15: return x.loud(any(r), any(r));
-            case 16: return x.couldRest(any(r));
-            case 17: return x.move(any(r), any(r));
-            case 18: return x.reach();
-            case 19: return x.fewest();
-            case 20: return x.bear();
-            case 21: return x.hears(any(r), any(r));
-            case 22: return x.forget();
-            case 23: return x.ill();
-            case 24: return x.keep(any(r));
-            case 25: return x.back(any(r));
-            default: return x.count(any(r));
+    /** Half of the numbers are small, so that calls are not all refused. */
+    private static Script.Call call(Random r) {
+        String[] call = CALLS[r.nextInt(CALLS.length)].split(" ");
+        // read anew an object is empty, and the rest of a run would be poor
+        if (call[0].equals("band") && r.nextInt(8) > 0) call = new String[] {"puts", "4"};
+        int[] numbers = new int[Integer.parseInt(call[1])];
+        boolean small = r.nextBoolean();
+        for (int i = 0; i < numbers.length; i++) numbers[i] = small ? any(r, 7, 16) : any(r, 0, EDGES.length);
+        return new Script.Call(call[0], numbers, null);
+    }
+
+    @Script.Says("Refused, and nothing changes")
+    static void anyNumbersInAnyState() {
+        for (int seed = 0; seed < SEEDS; seed++) {
+            Random r = new Random(seed);
+            List<Script.Call> calls = new ArrayList<>();
+            for (char letter : TEXT.toCharArray()) {
+                if (seed % 4 != 0) calls.add(new Script.Call("type", new int[] {letter}, null));
+            }
+            calls.add(new Script.Call("band", new int[0], null));
+            for (int i = 0; i < RANDOM_CALLS; i++) calls.add(call(r));
+            withoutTheRefused(seed, calls);
         }
     }
 
-    private static String state(ChordSpreads x) {
-        StringBuilder all = new StringBuilder();
-        for (int what = 0; what < 8; what++) all.append(x.count(what)).append(' ');
-        for (int c = 0; c < 8; c++) {
-            for (int i = -1; i < 3; i++) all.append(x.chord(c, i)).append(' ');
+    /** A twin that is not asked what the other refuses answers all else alike, and is alike in the end. */
+    private static void withoutTheRefused(int seed, List<Script.Call> calls) {
+        Script.Player one = new Script.Player();
+        Script.Player twin = new Script.Player();
+        List<Script.Call> taken = new ArrayList<>();
+        for (Script.Call call : calls) {
+            int answer = one.play(call);
+            if (Script.isRefused(answer)) continue;
+            taken.add(call);
+            Script.due("seed " + seed + ": " + call + " of the twin", twin.play(call), answer);
         }
-        for (int p = 0; p < 4; p++) {
-            for (int what = 0; what < 5; what++) all.append(x.player(p, what)).append(' ');
-        }
-        return all.append(x.ill()).append(' ').append(x.score(0)).toString();
+        if (!Script.probe(calls).equals(Script.probe(taken))) Script.wrong("seed " + seed + ": a refused call has changed something");
     }
 
     public static void main(String[] args) {
-        int wrong = 0;
-        for (int seed = 0; seed < 200; seed++) {
-            Random r = new Random(seed);
-            ChordSpreads x = new ChordSpreads();
-            for (int i = 0; i < TEXT.length() && seed % 4 != 0; i++) x.type(TEXT.charAt(i));
-            x.band();
-            for (int i = 0; i < 400; i++) {
-                String before = state(x);
-                int answer = call(x, r);
-                if (answer < 0 && !before.equals(state(x))) {
-                    wrong++;
-                    System.out.println("seed " + seed + ", call " + i + ": refused with " + answer + ", but something changed");
-                }
-            }
-        }
-        System.out.println(wrong == 0 ? "all answers are as due" : wrong + " answers are not as due");
-        if (wrong != 0) System.exit(1);
+        Script.runAll(AnyArgumentsTest.class);
     }
 }

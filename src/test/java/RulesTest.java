@@ -1,3 +1,10 @@
+import com.sun.source.tree.CompilationUnitTree;
+import com.sun.source.tree.ExpressionTree;
+import com.sun.source.tree.MemberSelectTree;
+import com.sun.source.tree.MethodInvocationTree;
+import com.sun.source.tree.MethodTree;
+import com.sun.source.util.JavacTask;
+import com.sun.source.util.TreeScanner;
 import java.io.IOException;
 import java.lang.management.ManagementFactory;
 import java.lang.reflect.Constructor;
@@ -6,10 +13,17 @@ import java.lang.reflect.Method;
 import java.lang.reflect.Modifier;
 import java.nio.file.Files;
 import java.nio.file.Path;
+import java.util.HashSet;
+import java.util.List;
+import java.util.Map;
 import java.util.Set;
+import java.util.TreeMap;
 import java.util.TreeSet;
 import java.util.regex.Matcher;
 import java.util.regex.Pattern;
+import javax.tools.JavaCompiler;
+import javax.tools.StandardJavaFileManager;
+import javax.tools.ToolProvider;
 
 /** The face, the rules of LANGUAGE.md that can be seen in the source, and how much room the calls take. */
 public final class RulesTest {
@@ -20,7 +34,7 @@ public final class RulesTest {
         "back(int)", "count(int)"};
     private static final String TEXT = "b 0 60 9 12;b 0 60 8 12;r 0 60 7;g 0 60 6;"
         + "n1 2 3;n2 4 5;n1 2 4;n1 2 3;n4 5 6;n1 2 3;n2 3 4;n1 3 5;";
-    private static final int METHOD_LINES = 60, PARAMETERS = 7, CLASSES = 12, FIELDS = 20;
+    private static final int METHOD_LINES = 60, PARAMETERS = 7, CLASSES = 12, FIELDS = 20, DEEP = 8;
     private static int wrong = 0;
 
     private static void hold(boolean holds, String rule) {
@@ -88,6 +102,51 @@ public final class RulesTest {
         }
     }
 
+    /** Which methods a method calls, both by name and how many arguments they take. */
+    private static final class Calls extends TreeScanner<Void, String> {
+        final Map<String, Set<String>> of = new TreeMap<>();
+
+        @Override
+        public Void visitMethod(MethodTree method, String outer) {
+            String name = method.getName() + "/" + method.getParameters().size();
+            of.computeIfAbsent(name, none -> new TreeSet<>());
+            return super.visitMethod(method, name);
+        }
+
+        @Override
+        public Void visitMethodInvocation(MethodInvocationTree call, String caller) {
+            ExpressionTree called = call.getMethodSelect();
+            String name = called instanceof MemberSelectTree m ? m.getIdentifier().toString() : called.toString();
+            if (caller != null) of.get(caller).add(name + "/" + call.getArguments().size());
+            return super.visitMethodInvocation(call, caller);
+        }
+
+        /** The class has no recursion, so a method that is open already is a fault too. */
+        int depth(String method, Set<String> open) {
+            if (!open.add(method)) return 1000;
+            int most = 0;
+            for (String called : of.get(method)) {
+                if (of.containsKey(called)) most = Math.max(most, depth(called, open));
+            }
+            open.remove(method);
+            return most + 1;
+        }
+    }
+
+    private static void depth(Path source) throws IOException {
+        JavaCompiler compiler = ToolProvider.getSystemJavaCompiler();
+        try (StandardJavaFileManager files = compiler.getStandardFileManager(null, null, null)) {
+            JavacTask task = (JavacTask) compiler.getTask(null, files, null, List.of("-proc:none"), null, files.getJavaFileObjects(source));
+            Calls calls = new Calls();
+            for (CompilationUnitTree unit : task.parse()) calls.scan(unit, null);
+            hold(calls.of.size() >= FACE.length, "the source's methods are seen");
+            for (String method : calls.of.keySet()) {
+                int deep = calls.depth(method, new HashSet<>());
+                hold(deep <= DEEP, "calls go at most " + DEEP + " deep, not " + deep + " from " + method);
+            }
+        }
+    }
+
     private static void allCalls(ChordSpreads x, int i) {
         if (i % 10 == 0) {
             for (int j = 0; j < TEXT.length(); j++) x.type(TEXT.charAt(j));
@@ -117,7 +176,7 @@ public final class RulesTest {
         long before = threads.getThreadAllocatedBytes(self);
         ChordSpreads x = new ChordSpreads();
         long made = threads.getThreadAllocatedBytes(self);
-        for (int i = 0; i < 30; i++) allCalls(x, i);
+        for (int i = 0; i < 20; i++) allCalls(x, i);
         long called = threads.getThreadAllocatedBytes(self);
         hold(made - before < 65_536, "an object takes less than 64 KiB, not " + (made - before));
         hold(called - made < 8_192, "calls make no objects, not " + (called - made) + " bytes");
@@ -125,7 +184,9 @@ public final class RulesTest {
 
     public static void main(String[] args) throws IOException {
         face();
-        source(Files.readString(Path.of("src/main/java/ChordSpreads.java")));
+        Path file = Path.of("src/main/java/ChordSpreads.java");
+        source(Files.readString(file));
+        depth(file);
         room();
         System.out.println(wrong == 0 ? "all rules hold" : wrong + " rules do not hold");
         if (wrong != 0) System.exit(1);
