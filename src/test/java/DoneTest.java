@@ -180,7 +180,7 @@ public final class DoneTest {
         Script.run("tells(6, 9) = 1", "count(3..4) = 6 9", "tells(6, 10) = 1", "count(3..4) = 6 10", "tells(5, 10) = 1", "count(3..4) = 5 10");
     }
 
-    @Script.Says("REST, BALANCE told")
+    @Script.Says({"REST, BALANCE told", "REST and BALANCE: 1. BAD; STATE: they are that."})
     static void p11_theyAreTold() {
         Script.run("tell 'r0 60 4;r0 60 4;n1;n1 2;q0 9;' = 5", "score(0) = 0", "tells(3, 9) = 1", "score(0) = 1", "tells(0, 9) = 1", "score(0) = 0");
     }
@@ -199,6 +199,12 @@ public final class DoneTest {
             "undo() = 5", "count(1) = 2", "undo() = 4", "count(3..4) = 5 9", "undo() = 3", "count(1) = 3", "undo() = 2", "count(2) = 1",
             "chord(0, -1..1) = 1 5 NONE", "undo() = 1", "chord(0, -1..2) = 2 2 3 NONE", "undo() = 0", "count(2) = 2",
             "chord(0, -1..1) = 1 1 NONE", "chord(1, -1..2) = 2 2 3 NONE", "undo() = STATE");
+    }
+
+    @Script.Says("a PLAYER sent OUT, called IN")
+    static void p12_sentOutAndCalledInAreUndone() {
+        Script.run("tell 'r0 1 2;g0 1 2;' = 2", "calls(1) = 0", "calls(0) = 0", "calls(1) = 1", "undo() = 2", "count(1) = 0", "undo() = 1", "count(1) = 1",
+            "undo() = 0", "count(1) = 3", "undo() = STATE", "count(1) = 3");
     }
 
     @Script.Says("a CHORD put (at the end, or in place of one), taken")

@@ -4,6 +4,8 @@ public final class ScoreTest {
     private static final String NO_SCORE = "tell 'r 0 60 4;n 10;n 10 11;n 10;' = 4";
     /** The bow's halves and the reed: BALANCE and a dear REST leave one score. */
     private static final String BOW_AND_REED = "tell 'b 0 60 9 5;r 10 10 4;n 10 12;n 10 30 34;q 20 4;' = 5";
+    /** All four play throughout: a rest is dear, and chords 1 and 2 need three of them each. */
+    private static final String FOUR = "tell 'r10 11 4;r10 11 4;r20 21 4;r20 21 4;n10 20;n10 11 20;n10 20 21;q20 4;' = 8";
     private static final String EIGHT = "n1;n2;n4;n8;n16;n32;n31;n30;";
 
     // ---- promise 15
@@ -50,8 +52,8 @@ public final class ScoreTest {
     @Script.Says("DOUBLED: a note that two PLAYERS or more play.")
     static void p15_aNoteThatThreePlayIsOneDoubledNote() {
         Script.run("tell 'r 0 60 4;r 0 60 4;r 0 60 4;n 10;n 10 11 12;n 10;q 20 30;' = 7", "score(0..2) = 6 9 2");
-        // all four play throughout: two notes of chord 0 are doubled, one of chord 1, one of chord 2
-        Script.run("tell 'r10 11 4;r10 11 4;r20 21 4;r20 21 4;n10 20;n10 11 20;n10 20 21;q20 30;' = 8", "score(0..2) = 3 12 4");
+        // two notes of chord 0 are doubled, one of chord 1, one of chord 2
+        Script.run(FOUR, "score(0..2) = 3 12 4");
     }
 
     @Script.Says("an EVEN SPREAD for each CHORD")
@@ -209,6 +211,11 @@ public final class ScoreTest {
     @Script.Says("if it alone had HAND 0 there")
     static void p18_eachAloneThoughNotAllTogether() {
         Script.run("tell 'r 0 60 4;r 0 60 3;n 10;n 10 20;n 10;q 20 9;' = 6", "couldRest(0..2) = 3 0 3");
+    }
+
+    @Script.Says("PLAYERS (bits) that COULD REST in a CHORD of THE SCORE")
+    static void p18_allOfFourPlayers() {
+        Script.run(FOUR, "couldRest(0..2) = 15 12 3");
     }
 
     @Script.Says("PLAYERS (bits) that COULD REST in a CHORD of THE SCORE; NONE: there is none. BAD.")
@@ -380,6 +387,13 @@ public final class ScoreTest {
             "score(0) = NONE", "spreads(0..1) = 1 0", "calls(1) = 1", "score(0..2) = 20 4 1", "fewest() = 3", "score(0) = 20", "hand(0, 0..1) = 3 1",
             "bear() = 0", "hand(1, 0..1) = 6 1", "reach() = 2", "loud(0, 0..1) = 8 4", "ill() = 2", "couldRest(0..1) = 2 0", "spreads(0) = 2",
             "move(0, 0..1) = 20 0", "count(0..7) = 2 3 2 20 4 1 0 2");
+    }
+
+    @Script.Says("(Nothing is changed.)")
+    static void p22_askingChangesNothingOfFourPlayers() {
+        Script.run(FOUR, "score(0..2) = 3 12 4", "spreads(0..2) = 9 6 6", "score(0) = 3", "bear() = 0", "score(0) = 3", "fewest() = 15", "score(0) = 3",
+            "reach() = 3", "hears(1, 1) = 1", "score(0) = 3", "ill() = 12", "hand(0, 0..3) = 1 1 2 2", "tells(20, 3) = 1", "spreads(0..2) = 5 4 4",
+            "score(0..1) = 60 8", "spreads(0) = 5", "bear() = 0", "fewest() = 15");
     }
 
     public static void main(String[] args) {

@@ -21,11 +21,11 @@ import java.util.regex.Pattern;
  * Every call that is refused is left out by a twin as well, and the twins must be alike: a refusal changes nothing.
  */
 final class Script {
-    /** The words of ../shared/DOC.md that would be broken. */
+    /** The words of ../shared/DOC.md that would be broken; SentencesTest sees to it that they stand there. */
     @Retention(RetentionPolicy.RUNTIME)
     @Target(ElementType.METHOD)
     @interface Says {
-        String value();
+        String[] value();
     }
 
     record Call(String name, int[] numbers, Integer due) {
@@ -100,7 +100,7 @@ final class Script {
         } catch (IllegalAccessException hidden) {
             wrong("it can't be called");
         }
-        if (WRONG.size() > before) System.out.println("  broken: " + m.getAnnotation(Says.class).value());
+        if (WRONG.size() > before) System.out.println("  broken: " + String.join(" .. ", m.getAnnotation(Says.class).value()));
     }
 
     static void wrong(String what) {

@@ -12,6 +12,13 @@ public final class SpreadTest {
         Script.run("tell 'r 0 60 2;n 0;n 60;' = 3", "could(0, 0..1, 1) = 1");
     }
 
+    @Script.Says("which of the CHORD's notes it plays, as bits (bit 0: the first)")
+    static void p13_bitsOfAHand() {
+        Script.run("tell 'r 10 10 4;r 20 20 4;r 30 30 4;n 10 20 30;n 30;n 20 30;' = 6", "could(0, 0, {1,2,4}) = 1 0 0", "could(1, 0, {1,2,4}) = 0 1 0",
+            "could(2, 0, {1,2,4}) = 0 0 1", "could(0..2, 1, 1) = 0 0 1", "could(1, 2, 1..2) = 1 0", "could(2, 2, 1..2) = 0 1", "hand(0, 0..2) = 1 2 4",
+            "hand(1, 0..2) = 0 0 1", "hand(2, 0..2) = 0 1 2");
+    }
+
     @Script.Says("0 a REED: it plays one note, or none")
     static void p13_aReedPlaysOneNoteOrNone() {
         Script.run("tell 'r 0 60 2;n 1 2 3;n 1 2;n 1;' = 4", "could(0, 0, 0..7) = 1 1 1 0 1 0 0 0", "could(0, 1, 0..3) = 1 1 1 0",

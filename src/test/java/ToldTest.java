@@ -173,9 +173,50 @@ public final class ToldTest {
             "player(0..2, 2) = 2 5 9", "player(0..2, 3) = 3 6 2", "span(1) = 7", "chord(0..2, 0) = 9 8 7");
     }
 
+    @Script.Says({"told letter by letter, blanks (32) between TOKENS", "NUMBERS (rows of figures)"})
+    static void p04_onlyLetter32IsABlank() {
+        items("n 1 2;", 1);
+        for (char letter : new char[] {0, 9, 10, 11, 12, 13, 31, 33, 95, 160, 255}) {
+            fault("n" + letter + "1;", 1);
+            fault("n 1" + letter + "2;", 3);
+            fault("n 1;" + letter, 4);
+        }
+    }
+
+    @Script.Says("ITEMS, each ended by ;")
+    static void p04_everyItemIsEndedByItsSemicolon() {
+        fault("r 1 2 3", 7);
+        fault("r 1 2 3 n 1;", 8);
+        fault("n 1 n 2;", 4);
+        fault("n 1 2 3 n 2;", 8);
+        fault("q 1 2 r 1 2 3;", 6);
+        fault("b 1 2 3 4 g 1 2 3;", 10);
+    }
+
+    @Script.Says({"b LOW HIGH WEIGHT SPAN (a BOW)", "g LOW HIGH WEIGHT (a BELL)", "r LOW HIGH WEIGHT"})
+    static void p04_aBowHasOneNumberMoreThanTheOthers() {
+        items("r 1 2 3;b 1 2 3 4;g 1 2 3;", 3);
+        fault("r 1 2 3 4;", 8);
+        fault("g 1 2 3 4;", 8);
+        fault("b 1 2 3;", 7);
+        fault("b 1 2 3 4 5;", 10);
+        fault("q 1;", 3);
+        fault("q 1 2 3;", 6);
+    }
+
+    @Script.Says("All PLAYERS are IN at first.")
+    static void p04_allPlayersAreInAtFirst() {
+        String[] all = {"r0 1 2;", "b0 1 2 3;", "g0 1 2;", "r0 1 2;"};
+        String text = "";
+        for (int many = 1; many <= 4; many++) {
+            text += all[many - 1];
+            Script.run("tell '" + text + "' = " + many, "count(0) = " + many, "count(1) = " + ((1 << many) - 1), "player(0.." + (many - 1) + ", 4) = 1");
+        }
+    }
+
     // ---- promise 4: bounds of numbers
 
-    @Script.Says("a RANGE LOW to HIGH (0 .. 60, HIGH no less than LOW)")
+    @Script.Says({"a RANGE LOW to HIGH (0 .. 60, HIGH no less than LOW)", "a NUMBER beyond what it may be, too"})
     static void p04_lowAndHighAre0To60() {
         for (String kind : new String[] {"r", "b", "g"}) {
             String more = kind.equals("b") ? " 5 1;" : " 5;";
@@ -247,7 +288,7 @@ public final class ToldTest {
 
     // ---- promise 4: how many there may be
 
-    @Script.Says("a fifth PLAYER's letter")
+    @Script.Says({"(4 at most)", "a fifth PLAYER's letter"})
     static void p04_fourPlayersAtMost() {
         for (String kind : new String[] {"r0 1 2;", "g0 1 2;"}) {
             Script.run("tell '" + kind.repeat(4) + "' = 4", "count(0..1) = 4 15");
@@ -258,7 +299,7 @@ public final class ToldTest {
         }
     }
 
-    @Script.Says("a third b")
+    @Script.Says({"1 a BOW (2 at most)", "a third b"})
     static void p04_twoBowsAtMost() {
         Script.run("tell 'b0 1 2 3;b0 1 2 3;r0 1 2;g0 1 2;' = 4", "player(0..3, 0) = 1 1 0 2");
         fault("b0 1 2 3;b0 1 2 3;b0 1 2 3;", 18);
@@ -269,7 +310,7 @@ public final class ToldTest {
             "clear() = 19", "tell 'b0 1 2 3;' = 1");
     }
 
-    @Script.Says("a ninth n")
+    @Script.Says({"CHORDS 0, 1, .. (8 at most)", "a ninth n"})
     static void p04_eightChordsAtMost() {
         Script.run("tell '" + "n1;".repeat(8) + "' = 8", "count(2) = 8");
         Script.run("tell '" + "n1 2 3;".repeat(8) + "' = 8", "count(2) = 8", "chord(7, 2) = 3");
